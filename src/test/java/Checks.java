@@ -22,15 +22,18 @@ final class Checks {
         count(truth, what);
     }
 
-    /** The class of the exception must be the very one: an index of the machine's is not the document's. */
+    /** The exception must be of the very class, and thrown by the class under test, not by the machine or a library. */
     static void fails(String what, Class<? extends RuntimeException> due, Call call) {
         Class<?> got = null;
+        String thrower = "SelectoRoute";
         try {
             call.run();
         } catch (RuntimeException e) {
             got = e.getClass();
+            thrower = e.getStackTrace()[0].getClassName();
         }
         count(got == due, what + " threw " + got + ", due is " + due);
+        count(thrower.equals("SelectoRoute"), what + " was thrown by " + thrower);
     }
 
     static void outOfBounds(String what, Call call) {

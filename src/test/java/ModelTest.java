@@ -4,6 +4,7 @@ import java.util.Random;
 public final class ModelTest {
     private static final int RUNS = 1500;
     private static final int CALLS = 512;
+    private static final int MOST_AT_START = 3;
     private static final String COINS = "ndqsnndqqsx";
 
     private final Random random;
@@ -34,13 +35,14 @@ public final class ModelTest {
         try {
             return answer.give();
         } catch (RuntimeException e) {
-            return e.getClass();
+            String thrower = e.getStackTrace()[0].getClassName();
+            return thrower.startsWith("java.") ? thrower + " threw" : e.getClass();
         }
     }
 
     private void run(int number) {
         start();
-        for (int i = 0; i < CALLS - 8; i++) {
+        for (int i = 0; i < CALLS - MOST_AT_START; i++) {
             int call = random.nextInt(100);
             int a = box();
             int b = number();
@@ -59,7 +61,7 @@ public final class ModelTest {
         if (wildness == 4) {
             return;
         }
-        int boxes = 1 + random.nextInt(3);
+        int boxes = 1 + random.nextInt(MOST_AT_START);
         for (int i = 0; i < boxes; i++) {
             int taste = random.nextInt(10);
             int share = random.nextInt(61);

@@ -75,6 +75,14 @@ public final class SongsTest {
         x.change(0, 1, 1);
         Checks.fails("none is left", NoSuchElementException.class, () -> x.mostAsked(0));
         Checks.equal("from 1 again", x.ask(0, 5), 1);
+        x.addDisc(0, 50, 0);
+        x.addDisc(99, 50, 0);
+        x.ask(0, 0);
+        x.ask(0, 99);
+        x.change(0, 2, 2);
+        x.change(0, 3, 3);
+        Checks.equal("the lowest song is put in", x.ask(0, 0), 1);
+        Checks.equal("the highest song is put in", x.ask(0, 99), 1);
     }
 
     private static void least() {
