@@ -28,6 +28,8 @@ public final class SelectoRoute {
     private static final int WORN_OUT = 60;
     private static final int NEEDLE_STEP = 40;
     private static final int PULL_PER_GUEST = 8;
+    // Below the loss by any slot: a pull stays under 100.
+    private static final int NO_LOSS = -1000;
     private static final int PLAY_CENTS = 5;
 
     private static final int WEEK_MINUTES = 600;
@@ -456,7 +458,7 @@ public final class SelectoRoute {
     }
 
     private void rankLosses(Box box) {
-        Arrays.fill(leastLost, Integer.MIN_VALUE);
+        Arrays.fill(leastLost, NO_LOSS);
         for (Slot slot : box.slots) {
             rank(leastLost, -slot.pullFor(box.taste, week));
         }

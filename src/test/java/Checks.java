@@ -36,6 +36,17 @@ final class Checks {
         count(thrower.equals("SelectoRoute"), what + " was thrown by " + thrower);
     }
 
+    /** The call must end without an exception; what it answers is looked at elsewhere. */
+    static void answers(String what, Call call) {
+        Class<?> got = null;
+        try {
+            call.run();
+        } catch (RuntimeException e) {
+            got = e.getClass();
+        }
+        count(got == null, what + " threw " + got + ", due is an answer");
+    }
+
     static void outOfBounds(String what, Call call) {
         fails(what, IndexOutOfBoundsException.class, call);
     }

@@ -222,23 +222,9 @@ public final class CoinsAndKeysTest {
         Checks.equal("the disc that was there", x.getWear(1), 0);
     }
 
-    /** Wears the disc in slot 0 by single plays with ever new needles. */
-    private static void wear(SelectoRoute x, int times) {
-        for (int i = 0; i < times; i++) {
-            if (i % 30 == 0) {
-                x.changeNeedle(0);
-            }
-            if (x.getCredits(0) == 0) {
-                x.insert(0, 's');
-            }
-            x.press(0, 0);
-            x.play(0);
-        }
-    }
-
     private static void wornDisc() {
         SelectoRoute x = route();
-        wear(x, 59);
+        Routes.wear(x, 0, 0, 59);
         Checks.equal("wear 59", x.getWear(0), 59);
         Checks.equal("credit left", x.getCredits(0), 1);
         x.press(0, 0);
@@ -278,7 +264,7 @@ public final class CoinsAndKeysTest {
 
     private static void needleWearsDisc() {
         SelectoRoute x = route();
-        wear(x, 30);
+        Routes.wear(x, 0, 0, 30);
         for (int i = 0; i < 10; i++) {
             x.insert(0, 'n');
             x.press(0, 0);

@@ -24,24 +24,10 @@ public final class SumsTest {
         return x;
     }
 
-    /** Plays a slot until its disc has the wear, with a new needle at every 30 plays. */
-    private static void wear(SelectoRoute x, int slot, int wear) {
-        for (int i = 0; i < wear; i++) {
-            if (i % 30 == 0) {
-                x.changeNeedle(0);
-            }
-            if (x.getCredits(0) == 0) {
-                x.insert(0, 's');
-            }
-            x.press(0, slot);
-            x.play(0);
-        }
-    }
-
     private static void wornShare() {
         SelectoRoute x = route(2, 1);
         Checks.same("none is worn", x.wornShare(), 0.0f);
-        wear(x, 0, 59);
+        Routes.wear(x, 0, 0, 59);
         Checks.same("59 is not worn", x.wornShare(), 0.0f);
         x.press(0, 0);
         x.play(0);
@@ -50,7 +36,7 @@ public final class SumsTest {
         x.change(0, 0, -1);
         Checks.same("in the van, too", x.wornShare(), 1.0f / 3.0f);
         x.changeNeedle(0);
-        wear(x, 1, 60);
+        Routes.wear(x, 0, 1, 60);
         Checks.same("two of three", x.wornShare(), 2.0f / 3.0f);
     }
 
@@ -58,7 +44,7 @@ public final class SumsTest {
         SelectoRoute x = new SelectoRoute();
         Checks.fails("no disc", ArithmeticException.class, x::wornShare);
         SelectoRoute y = route(1, 2);
-        wear(y, 0, 60);
+        Routes.wear(y, 0, 0, 60);
         y.burn(1);
         Checks.same("a burnt one aside", y.wornShare(), 0.5f);
         y.burn(2);
