@@ -4,6 +4,8 @@ import java.util.NoSuchElementException;
 public final class DiscEdgesTest {
     public static void main(String[] args) {
         newObject();
+        newDisc();
+        newBox();
         mostDiscs();
         burntDiscsKeepTheirNumbers();
         mostBoxes();
@@ -35,6 +37,37 @@ public final class DiscEdgesTest {
         Checks.equal("the first disc", x.addDisc(0, 1, 0), 0);
         Checks.equal("the first box", x.addBox(0, 0), 0);
         Checks.equal("another object is without them", new SelectoRoute().addDisc(0, 1, 0), 0);
+    }
+
+    /** "Buys a disc, which lies in the van then." */
+    private static void newDisc() {
+        SelectoRoute x = new SelectoRoute();
+        x.addDisc(99, 50, 99);
+        Checks.equal("place", x.getPlace(0), -1);
+        Checks.equal("wear", x.getWear(0), 0);
+        Checks.equal("pull", x.pull(0), 0);
+    }
+
+    /** A box begins with nothing, also a later one beside one that has something. */
+    private static void newBox() {
+        SelectoRoute x = Routes.withBox(1, 40);
+        x.insert(0, 'q');
+        x.press(0, 0);
+        x.ask(0, 5);
+        x.pass();
+        x.visit(0);
+        x.addBox(60, 9);
+        Checks.equal("credits", x.getCredits(1), 0);
+        Checks.equal("queued", x.getQueued(1), 0);
+        Checks.equal("cents", x.getCents(1), 0);
+        Checks.equal("needle", x.getNeedle(1), 0);
+        Checks.equal("short", x.getShort(1), 0);
+        Checks.equal("share", x.getShare(1), 0);
+        Checks.equal("wheel", x.getWheel(1, 0), 0);
+        Checks.holds("not jammed", !x.isJammed(1));
+        Checks.fails("no disc", NoSuchElementException.class, () -> x.discAt(1, 0));
+        Checks.fails("no song", NoSuchElementException.class, () -> x.mostAsked(1));
+        Checks.fails("not visited", UnsupportedOperationException.class, () -> x.changeNeedle(1));
     }
 
     /** "At most 30 discs are numbered from 0" */
